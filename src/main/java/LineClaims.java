@@ -133,7 +133,7 @@ public final class LineClaims {
     }
 
     private static int byteOf(int word, int i) {
-        return word >>> 8 * i & 255;
+        return (word >>> 8 * i) & 255;
     }
 
     /** What is typed. Spaces count for nothing, so only their room and the others' places are kept. */
@@ -272,7 +272,7 @@ public final class LineClaims {
             }
             at++;
             claims.putVariable(claim, variable);
-            return readClaim(bound | 1 << variable, depth + 1);
+            return readClaim(bound | (1 << variable), depth + 1);
         }
 
         private boolean readBracket(int bound) {
@@ -328,32 +328,29 @@ public final class LineClaims {
             return false;
         }
 
+        /** A digit 1 or 2 with a variable behind it is the variable's; any other digits are a number. */
         private boolean readPart(int claim, int bound, int sign) {
             int digit = digitOf(mark());
-            if (digit < 0) {
-                return readVariable(claim, bound, sign);
+            int lower = -1;
+            if (digit >= 0) {
+                at++;
+                lower = digitOf(mark());
             }
-            at++;
-            int lower = digitOf(mark());
             if (lower >= 0) {
                 at++;
                 claims.addNumber(claim, sign * (10 * digit + lower));
                 return true;
             }
-            if ((digit == 1 || digit == 2) && variableOf(mark()) >= 0) {
-                return readVariable(claim, bound, sign * digit);
-            }
-            claims.addNumber(claim, sign * digit);
-            return true;
-        }
-
-        private boolean readVariable(int claim, int bound, int factor) {
             int variable = variableOf(mark());
-            boolean mayStand = variable == Claims.X || variable > 0 && (bound >> variable & 1) != 0;
-            if (!mayStand) {
+            boolean isFactor = variable >= 0 && (digit == 1 || digit == 2);
+            if (digit >= 0 && !isFactor) {
+                claims.addNumber(claim, sign * digit);
+                return true;
+            }
+            if (variable < 0 || (variable != Claims.X && ((bound >> variable) & 1) == 0)) {
                 return false;
             }
-            claims.addFactor(claim, variable, factor);
+            claims.addFactor(claim, variable, isFactor ? sign * digit : sign);
             at++;
             return true;
         }
@@ -667,7 +664,7 @@ public final class LineClaims {
 
         boolean has(int v) {
             int i = alike(v) - FIRST;
-            return (words[i / BITS] >>> i % BITS & 1L) != 0L;
+            return ((words[i / BITS] >>> (i % BITS)) & 1L) != 0L;
         }
 
         /** The number of the stretch for which the claim is so just if it is for v. */

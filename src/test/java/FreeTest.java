@@ -20,7 +20,23 @@ public final class FreeTest {
         free(check, "ExEy[x<y]", false);
         free(check, "AyEx[x<y]", false);
         free(check, "![x=3]", true);
+        oneObject(check);
         check.end();
+    }
+
+    /** What an earlier claim had at the same place counts for nothing. */
+    private static void oneObject(Due check) {
+        LineClaims claims = new LineClaims();
+        check.take(claims, "&Ey[y=x][x<1]", 2);
+        check.due("free() of the first claim", claims.free(), true);
+        check.take(claims, "&![0<1][0<1]", 2);
+        check.due("free() of the second claim", claims.free(), false);
+        check.take(claims, "&Ex![0<1]Ex[2:x]", 2);
+        check.due("free() of the third claim", claims.free(), false);
+        check.take(claims, "&Ez![0<1]Ex[2:x]]", -17);
+        check.due("free() after a faulty one", claims.free(), false);
+        check.take(claims, "[x=1]", 1);
+        check.due("free() of the last claim", claims.free(), true);
     }
 
     private static void free(Due check, String text, boolean want) {

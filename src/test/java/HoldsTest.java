@@ -45,6 +45,8 @@ public final class HoldsTest {
         holds(check, "Ez&[-x<2z][2z<x]", v, v > 0);
         holds(check, "Ex[x=3]", v, true);
         holds(check, "Ax[x=3]", v, false);
+        holds(check, "Ey&[y=-x-2][y=x]", v, v == -1);
+        holds(check, "Ey&[y=-x][y=x]", v, v == 0);
         holds(check, "&[x<5]Ex[x=7]", v, v < 5);
         holds(check, "Ey[y=2x+15]", v, true);
         holds(check, "Ay![2x-15=y]", v, false);
@@ -65,6 +67,7 @@ public final class HoldsTest {
             holds(check, "Ey&&[15<y][2y<x-15]&[3:y][2:y+1]", v, v >= 58);
             holds(check, "Ey&&[y<-15][x+15<2y]&[3:y][2:y+1]", v, v <= -58);
             holds(check, "Ay>&&[15<y][2y<x-15][3:y][2:y]", v, v <= 57);
+            holds(check, "Ey&[y=-x-2][y=x]", v, v == -1);
             holds(check, "Ey&[y=15][x=2y+15]", v, v == 45);
             holds(check, "Ey&[y=-15][x=2y-15]", v, v == -45);
         }
