@@ -4,13 +4,19 @@ final class Due {
 
     private int wrong = 0;
     private int asked = 0;
+    private String sentence = "";
+
+    /** What the answers from here on are about: a sentence of the document, told with each wrong one. */
+    void about(String words) {
+        sentence = "(" + words + ") ";
+    }
 
     void due(String call, long got, long want) {
         asked++;
         if (got != want) {
             wrong++;
             if (wrong <= TOLD) {
-                System.out.println(call + " answered " + got + ", due is " + want);
+                System.out.println(sentence + call + " answered " + got + ", due is " + want);
             }
         }
     }
@@ -37,6 +43,11 @@ final class Due {
     void take(LineClaims claims, String text, int want) {
         type(claims, text);
         due("take of \"" + text + "\"", claims.take(), want);
+    }
+
+    /** The same on an object of its own. */
+    void take(String text, int want) {
+        take(new LineClaims(), text, want);
     }
 
     /** A new object with the claim of a text that is not faulty. */
