@@ -58,6 +58,8 @@ public final class FarEdgesTest {
         for (int v = -14; v <= 15; v++) {
             all("/[x<" + v + "][" + v + "-1<x]", true);
         }
+        all("Ey[y=2x+15]", true);
+        all("Ey[y=-2x-15]", true);
         all("[x=x]", true);
         all("[x<x+1]", true);
         all("/[2:x][2:x+1]", true);

@@ -215,6 +215,12 @@ public final class QuantifierEdgesTest {
         free("&[x<1]Ex[x<1]", true);
         free("!!>[0<1]![x=15]", true);
         free("AxEx[x<1]", false);
+        LineClaims claims = check.with("&[x<1]Ey[y=x]");
+        check.due("free() of the first claim", claims.free(), true);
+        check.take(claims, "&[0<1]Ey![0=1]", 2);
+        check.due("free() of the second claim", claims.free(), false);
+        check.take(claims, "&[0<1]Ey![0=x", -1 - 13);
+        check.due("free() after a faulty one", claims.free(), false);
     }
 
     private void free(String text, boolean want) {
